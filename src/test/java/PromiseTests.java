@@ -103,6 +103,11 @@ public final class PromiseTests {
                 x2 -> x2.feed(row, 0, 0, 0, 1));
         dueRefused("2: one too many of five", STATE, x2 -> fill(x2, row, most - 4, 7),
                 x2 -> x2.feed(row, 0x01010101, 0, 0, 0x01000000));
+        int two = 0x00010001;
+        Consumer<TextAligner> roomForThree = x2 -> fill(x2, row, most - 3, 7);
+        dueRefused("2: two of a, two of b", STATE, roomForThree, x2 -> x2.feed(row, two, two, 0, 0));
+        dueRefused("2: two of b, two of c", STATE, roomForThree, x2 -> x2.feed(row, 0, two, two, 0));
+        dueRefused("2: two of c, two of d", STATE, roomForThree, x2 -> x2.feed(row, 0, 0, two, two));
         TextAligner again = new TextAligner();
         fill(again, row, most - 1, 7);
         dueThrows("2: two where one has room", STATE, () -> again.feed(row, 0x0101, 0, 0, 0));
