@@ -70,8 +70,8 @@ public final class PlainModelTests {
     }
 
     private static void compareSearches(int[] pattern, int[] text, int bound) {
-        TextAligner x = objectWith(pattern, text);
         for (int mode = 0; mode <= 2; mode++) {
+            TextAligner x = objectWith(pattern, text);
             at = java.util.Arrays.toString(pattern) + " in " + java.util.Arrays.toString(text)
                     + ", search(" + mode + ", " + bound + ")";
             int answered = x.search(mode, bound);
@@ -101,8 +101,9 @@ public final class PlainModelTests {
     }
 
     private static void compareScripts(TextAligner x, int i, String script) {
-        due("steps", x.found(i, 3), script.length());
-        for (int j = 0; j < script.length() && j < x.found(i, 3); j++) {
+        int steps = x.found(i, 3);
+        due("steps", steps, script.length());
+        for (int j = 0; j < Math.min(script.length(), steps); j++) {
             due("step " + j + " of " + script, x.step(i, j), script.charAt(j) - '0');
         }
     }
