@@ -330,7 +330,8 @@ public final class BoundaryTests extends Checks {
         due("where they differ first, not last", "0130",
                 scriptOf(searchedFor("xay", "xbcy", 0, 450), 0));
         due("0 early, whatever comes behind", "003", scriptOf(searchedFor("aa", "aaa", 0, 450), 0));
-        due("3 where nothing else will do", "3000", scriptOf(searchedFor("abc", "xabc", 0, 450), 0));
+        due("3 where nothing else will do", "3000",
+                scriptOf(searchedFor("abc", "xabc", 0, 450), 0));
         due("full rows", "0".repeat(150) + "3".repeat(150),
                 scriptOf(searchedFor("a".repeat(150), "a".repeat(300), 0, 450), 0));
         due("full rows of other signs", "1".repeat(150) + "3".repeat(150),
@@ -363,7 +364,7 @@ public final class BoundaryTests extends Checks {
     }
 
     private static void termGapCosts() {
-        sentence("A GAP of n signs (in either row, opposite to none) costs the OPENING and n times");
+        sentence("A GAP of n signs (in either row, opposite to none) costs the OPENING and n");
         for (int n : new int[] {1, 2, 149, 150}) {
             dueGap("in the text", "a".repeat(n), "", n);
         }
@@ -520,7 +521,7 @@ public final class BoundaryTests extends Checks {
         }
     }
 
-    /** Short rows, other scores and costs, and things found in rows that are no more. */
+    /** Short rows, other scores and costs, and things found, and seen, in rows that are no more. */
     private static void someState(TextAligner x) {
         feed(x, 0, "abc");
         feed(x, 1, "xabx");
@@ -528,6 +529,7 @@ public final class BoundaryTests extends Checks {
         x.score(2, 3, -4);
         x.gaps(3, 4);
         x.search(2, 2);
+        x.step(1, 0);
         feed(x, 0, "d");
         x.clear(1);
         feed(x, 1, "dcba");
@@ -660,7 +662,7 @@ public final class BoundaryTests extends Checks {
             x.count(3);
         });
         TextAligner x = searchedFor("abc", "xabcx", 2, 1);
-        due("a step of it", 0, () -> x.step(1, 0));
+        due("a step of it", 2, () -> x.step(0, 2));
         x.clear(0);
         x.clear(1);
         feed(x, 0, "ab");
@@ -737,6 +739,8 @@ public final class BoundaryTests extends Checks {
         sentence("6: Step j of the script of the i-th that was found. NoSuchElementException.");
         for (int i : outside(0, 2)) {
             dueRefused("step(" + i + ", 0)", NO_SUCH, BoundaryTests::someState, x -> x.step(i, 0));
+            dueThrows("step(" + i + ", 0), none seen before", NO_SUCH,
+                    () -> searchedFor("abc", "xabx", 2, 2).step(i, 0));
         }
         dueThrows("of a new object", NO_SUCH, () -> new TextAligner().step(0, 0));
         dueThrows("where nothing was found", NO_SUCH,
@@ -945,6 +949,7 @@ public final class BoundaryTests extends Checks {
     private static void promise11LeastPlaces() {
         sentence("11: the least place in the pattern, and of these in the text");
         dueEnds("one way", of("abc", "xabc"), 3, 4);
+        due("in the text alone", 4, () -> of("abc", "xabc").count(4));
         dueEnds("two places in the pattern", of("axa", "a"), 1, 1);
         dueEnds("two places in the text", of("a", "xaxa"), 1, 2);
         dueEnds("the pattern's place is asked first", of("ab", "ba"), 1, 2);

@@ -1,3 +1,4 @@
+import java.util.Arrays;
 import java.util.Random;
 
 /**
@@ -8,6 +9,10 @@ public final class PlainModelTests {
     // 1, 9 and 17 are of one kind, and 8 and 248 of another: signs that differ, kinds that do not.
     private static final int[] SIGNS = {1, 9, 2, 248, 8, 17};
 
+    // More than one, to see whether something of an earlier round is left; three make fewer calls
+    // than an object is used for.
+    private static final int ROUNDS_OF_AN_OBJECT = 3;
+
     private static int wrong = 0;
     private static String at = "";
 
@@ -17,18 +22,21 @@ public final class PlainModelTests {
 
     public static void main(String[] args) {
         Random random = new Random(20261115);
-        for (int round = 0; round < 1500; round++) {
+        TextAligner x = new TextAligner();
+        for (int round = 0; round < 4500; round++) {
+            x = round % ROUNDS_OF_AN_OBJECT == 0 ? new TextAligner() : x;
             int variety = 1 + random.nextInt(SIGNS.length);
             int[] pattern = randomRow(random, 6, variety);
             int[] text = randomRow(random, 7, variety);
-            compareSearches(pattern, text, random.nextInt(9));
+            compareSearch(x, pattern, text, random.nextInt(3), random.nextInt(9));
         }
         for (int round = 0; round < 1500; round++) {
+            x = round % ROUNDS_OF_AN_OBJECT == 0 ? new TextAligner() : x;
             int variety = 1 + random.nextInt(SIGNS.length);
             int[] pattern = randomRow(random, 4, variety);
             int[] text = randomRow(random, 5, variety);
             randomScoring(random);
-            compareFits(pattern, text);
+            compareFits(x, pattern, text);
         }
         System.out.println(wrong == 0 ? "the plain model agrees" : wrong + " answers are wrong");
         if (wrong != 0) {
@@ -58,46 +66,45 @@ public final class PlainModelTests {
         extension = random.nextInt(range / 2 + 1);
     }
 
-    private static TextAligner objectWith(int[] pattern, int[] text) {
-        TextAligner x = new TextAligner();
+    private static void feedRows(TextAligner x, int[] pattern, int[] text) {
+        x.clear(0);
+        x.clear(1);
         for (int sign : pattern) {
             x.feed(0, sign, 0, 0, 0);
         }
         for (int sign : text) {
             x.feed(1, sign, 0, 0, 0);
         }
-        return x;
     }
 
-    private static void compareSearches(int[] pattern, int[] text, int bound) {
-        for (int mode = 0; mode <= 2; mode++) {
-            TextAligner x = objectWith(pattern, text);
-            at = java.util.Arrays.toString(pattern) + " in " + java.util.Arrays.toString(text)
-                    + ", search(" + mode + ", " + bound + ")";
-            int answered = x.search(mode, bound);
-            int found = 0;
-            int least = TextAligner.NONE;
-            for (int end = mode == 0 ? text.length : 0; end <= text.length; end++) {
-                int start = mode == 2 ? lastStartOfNearest(pattern, text, end) : 0;
-                int distance = distance(pattern, 0, text, start, end);
-                if (distance > bound) {
-                    continue;
-                }
-                if (found >= answered) {
-                    due("found", answered, found + 1);
-                    return;
-                }
-                due("end", x.found(found, 0), end);
-                due("distance", x.found(found, 1), distance);
-                due("start", x.found(found, 2), start);
-                compareScripts(x, found, firstScript(pattern, 0, text, start, end, distance));
-                least = least == TextAligner.NONE ? distance : Math.min(least, distance);
-                found++;
+    private static void compareSearch(
+            TextAligner x, int[] pattern, int[] text, int mode, int bound) {
+        at = Arrays.toString(pattern) + " in " + Arrays.toString(text)
+                + ", search(" + mode + ", " + bound + ")";
+        feedRows(x, pattern, text);
+        int answered = x.search(mode, bound);
+        int found = 0;
+        int least = TextAligner.NONE;
+        for (int end = mode == 0 ? text.length : 0; end <= text.length; end++) {
+            int start = mode == 2 ? lastStartOfNearest(pattern, text, end) : 0;
+            int distance = distance(pattern, 0, text, start, end);
+            if (distance > bound) {
+                continue;
             }
-            due("how many", answered, found);
-            due("count(2)", x.count(2), found);
-            due("least", x.least(), least);
+            if (found >= answered) {
+                due("found", answered, found + 1);
+                return;
+            }
+            due("end", x.found(found, 0), end);
+            due("distance", x.found(found, 1), distance);
+            due("start", x.found(found, 2), start);
+            compareScripts(x, found, firstScript(pattern, 0, text, start, end, distance));
+            least = least == TextAligner.NONE ? distance : Math.min(least, distance);
+            found++;
         }
+        due("how many", answered, found);
+        due("count(2)", x.count(2), found);
+        due("least", x.least(), least);
     }
 
     private static void compareScripts(TextAligner x, int i, String script) {
@@ -165,15 +172,15 @@ public final class PlainModelTests {
         return null;
     }
 
-    private static void compareFits(int[] pattern, int[] text) {
-        TextAligner x = objectWith(pattern, text);
+    private static void compareFits(TextAligner x, int[] pattern, int[] text) {
+        feedRows(x, pattern, text);
         x.gaps(opening, extension);
         for (int one = 0; one < 8; one++) {
             for (int other = 0; other <= one; other++) {
                 x.score(one, other, table[one][other]);
             }
         }
-        at = java.util.Arrays.toString(pattern) + " and " + java.util.Arrays.toString(text)
+        at = Arrays.toString(pattern) + " and " + Arrays.toString(text)
                 + ", gaps(" + opening + ", " + extension + ")";
         due("fit(0)", x.fit(0), fit(pattern, 0, pattern.length, text, 0, text.length, 'x'));
         int best = 0;
@@ -204,8 +211,9 @@ public final class PlainModelTests {
         return best;
     }
 
-    /** Before says which column was written last: x two signs, p the pattern's alone, t the text's. */
-    private static int fit(int[] pattern, int i, int end, int[] text, int j, int textEnd, char before) {
+    /** Before says what was written last: x two signs, p the pattern's alone, t the text's. */
+    private static int fit(
+            int[] pattern, int i, int end, int[] text, int j, int textEnd, char before) {
         if (i == end && j == textEnd) {
             return 0;
         }
